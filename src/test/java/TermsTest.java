@@ -455,7 +455,7 @@ public final class TermsTest {
     }
 
     @Says("An object is used for at most 512 calls after it has been made")
-    private static void whatItIs_everyKindOfCallAnswersAsThe512th() {
+    private static void whatItIs_everyCallThatAnswersIsRightAsThe512th() {
         for (int kind = 0; kind < 10; kind++) {
             for (int seed = 0; seed < 14; seed++) {
                 CreditGame used = new CreditGame();
@@ -467,6 +467,20 @@ public final class TermsTest {
                 }
                 due("game " + seed + ": call 512, kind " + kind, answer(used, kind), answer(fresh, kind));
             }
+        }
+    }
+
+    /** What fix did is seen by the next call alone, so that it can be the 511th at most. */
+    @Says("An object is used for at most 512 calls after it has been made")
+    private static void whatItIs_fixAsThe511thIsSeenByThe512th() {
+        for (int seed = 0; seed < 14; seed++) {
+            CreditGame used = new CreditGame();
+            int vertices = 1 + seed % 7;
+            for (int n = build(used, seed); n < CALLS - 2; n++) {
+                askOrBeRefused(used, n, vertices);
+            }
+            used.fix(vertices - 1, 2 * vertices - 1);
+            due("game " + seed + ": fixed as call 512", used.fixed(vertices - 1), 2 * vertices - 1);
         }
     }
 
